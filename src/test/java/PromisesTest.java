@@ -621,6 +621,9 @@ public final class PromisesTest {
         Due.isTrue("30 untold", x.untell(0));
         Due.isFalse("30 so already", x.untell(0));
         Due.is("30 at the same time", x.fits(1, 0), 3);
+        x.hear(0, 0, 0);
+        Due.tell(x, THREE);
+        Due.isFalse("30 none such with the new tongue", x.untell(1));
     }
 
     private static void p31Later() {
