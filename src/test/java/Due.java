@@ -54,6 +54,33 @@ final class Due {
         return x;
     }
 
+    /** WORDS named a?a, which may all FOLLOW one another and themselves by law one, of worth 0, 1, 2 .. */
+    static String loops(int many) {
+        StringBuilder text = new StringBuilder();
+        for (int i = 0; i < many; i++) {
+            text.append("word a").append((char) ('a' + i)).append("a worth ").append(i).append(";");
+        }
+        return text.toString();
+    }
+
+    /** WORDS named ab, bc, cd .. of worth 1, each of which only the next one may FOLLOW. */
+    static String chain(int many) {
+        StringBuilder text = new StringBuilder();
+        for (int i = 0; i < many; i++) {
+            text.append("word ").append((char) ('a' + i)).append((char) ('b' + i)).append(" worth 1;");
+        }
+        return text.toString();
+    }
+
+    /** A text's FAULT on a new object (0 and NONE: it has none). */
+    static void fault(String text, int number, int place) {
+        LastLetter x = new LastLetter();
+        int answer = tell(x, text);
+        is("tongue of '" + text + "'", answer == LastLetter.NONE ? 1 : 0, number == 0 ? 0 : 1);
+        is("fault of '" + text + "'", x.fault(0), number);
+        is("place of '" + text + "'", x.fault(1), place);
+    }
+
     /** The ROW that lies there must be just this one. */
     static void lies(String what, LastLetter x, int... words) {
         is(what + ": length", x.about(8), words.length);
