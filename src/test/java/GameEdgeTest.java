@@ -173,6 +173,8 @@ public final class GameEdgeTest {
         LastLetter y = Due.told(weighed(99, 0));
         Due.is("25 six times 99 for the other one", y.score(0), -594);
         Due.is("25 six times 99", y.score(1), 594);
+        Due.is("25 by the first word", Due.told("word ba worth 9;word ab worth 0;word bc worth 1;").score(1), 9);
+        Due.is("25 by the last word", Due.told("word bc worth 1;word ab worth 0;word ba worth 9;").score(1), 9);
         Due.is("25 -1 is a score", Due.told("word ab worth 0;word bc worth 1;word cd worth 2;").score(0), -1);
     }
 

@@ -41,6 +41,7 @@ public final class RowEdgeTest {
         joinOfLikeOnesTheFirst();
         tellingWithoutErrands();
         tellingOfNone();
+        tellingOfNoneAfterOne();
         tellingOfMostWords();
         tellingForTheFirstTimeBehind();
         tellingOfLikeOnesTheFirst();
@@ -449,6 +450,16 @@ public final class RowEdgeTest {
         Due.lies("21 none", x);
         Due.is("21 but in any order", Due.told(Due.chain(3) + "errand cd;errand ab;").telling(), 3);
         Due.is("21 one errand: its word alone", Due.told(Due.chain(3) + "errand cd;").telling(), 1);
+    }
+
+    /** What the search for one TELLING has left behind must not be found by the next. */
+    private static void tellingOfNoneAfterOne() {
+        LastLetter x = Due.told("word ab worth 1;word bc worth 1;errand ab;errand bc after ab;");
+        Due.is("21 ab bc", x.telling(), 2);
+        Due.tell(x, "word ab worth 1;word cd worth 1;errand ab;errand cd;");
+        Due.is("21 none", x.telling(), NONE);
+        Due.lies("21 none", x);
+        Due.is("20 none", x.join(0, 1), NONE);
     }
 
     /** A ring of 24 WORDS in which each ERRAND stands one ahead of that after which it is told. */
