@@ -1226,7 +1226,7 @@ public final class LastLetter {
         int layJoin(Tongue tongue, Row row, int from, int to) {
             begin();
             enter(tongue, 1 << from, NONE, false);
-            for (int i = 0; i < queued; i++) {
+            for (int i = 0; i < queued && i < SEARCH_STATES; i++) {
                 if (queue[i] == to) {
                     return lay(row, to);
                 }
@@ -1239,7 +1239,7 @@ public final class LastLetter {
             int everyErrand = (1 << tongue.errands) - 1;
             begin();
             enter(tongue, tongue.everyWord(), NONE, true);
-            for (int i = 0; i < queued; i++) {
+            for (int i = 0; i < queued && i < SEARCH_STATES; i++) {
                 if (queue[i] / MAX_WORDS == everyErrand) {
                     return lay(row, queue[i]);
                 }

@@ -3,6 +3,8 @@ import java.util.ArrayList;
 import java.util.HashMap;
 import java.util.List;
 import java.util.Map;
+import java.util.regex.MatchResult;
+import java.util.regex.Pattern;
 
 /**
  * The document once more, by plain enumeration and with the whole library, for small TONGUES.
@@ -31,8 +33,8 @@ final class Model {
     /** A TONGUE that is known to be right, line by line. */
     Model(String text) {
         for (String line : text.split(";")) {
-            String[] t = line.trim().split("\\s+");
-            switch (t[0]) {
+            String[] t = Pattern.compile("[a-z]+|[0-9]+").matcher(line).results().map(MatchResult::group).toArray(String[]::new);
+            switch (t.length == 0 ? "" : t[0]) {
                 case "word" -> {
                     names.add(t[1]);
                     worth.add(Integer.parseInt(t[3]));

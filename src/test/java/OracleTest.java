@@ -21,7 +21,7 @@ public final class OracleTest {
         Due.finish();
     }
 
-    private static String text(Random random, int most) {
+    static String text(Random random, int most) {
         int letters = 2 + random.nextInt(3);
         List<String> names = new ArrayList<>();
         int many = random.nextInt(most + 1);
